@@ -359,13 +359,13 @@ public final class LentArms {
         if (ticks < 1 || ticks > MOST_TICKS_OF_SEARCH) {
             return BAD_VALUE;
         }
-        int best = 0;
-        int fewest = Integer.MAX_VALUE;
+        int best = NOT_FOUND;
+        int fewest = 0;
         for (int quay = 0; quay < QUAYS; quay++) {
             trial.copyFrom(now);
             trial.append(quay, true);
             trial.pass(ticks);
-            if (trial.ticksWaited < fewest) {
+            if (best == NOT_FOUND || trial.ticksWaited < fewest) {
                 fewest = trial.ticksWaited;
                 best = quay;
             }
@@ -511,14 +511,15 @@ public final class LentArms {
             }
         }
 
-        /** Takes the first load out of a line that is not empty; its work. */
+        /** Takes the first load out of the line; its work, or 0 if none waits. */
         int takeFirst() {
-            int taken = work[0];
-            if (length > 0) {
-                length--;
-                System.arraycopy(work, 1, work, 0, length);
-                System.arraycopy(came, 1, came, 0, length);
+            if (length == 0) {
+                return 0;
             }
+            int taken = work[0];
+            length--;
+            System.arraycopy(work, 1, work, 0, length);
+            System.arraycopy(came, 1, came, 0, length);
             return taken;
         }
 
@@ -752,34 +753,28 @@ public final class LentArms {
         private void lookInBasins() {
             int before = log.total;
             for (int basin = 0; basin < BASINS; basin++) {
-                lendInBasin(basin * QUAYS_OF_BASIN);
+                lend(basin * QUAYS_OF_BASIN, (basin + 1) * QUAYS_OF_BASIN, LENT_IN_BASIN);
             }
             planNextLook(IN_BASIN, log.total > before);
         }
 
-        private void lendInBasin(int firstQuay) {
-            // each round lends an arm or ends the look
+        private void lookOverPort() {
+            int before = log.total;
+            lend(0, QUAYS, LENT_OVER_PORT);
+            planNextLook(OVER_PORT, log.total > before);
+        }
+
+        /** Lends arms to the quays from the first to before the end; over when the neediest gets none. */
+        private void lend(int first, int end, int why) {
+            // no arm is lent twice, so that there are no more rounds than arms
             for (int i = 0; i < armCount; i++) {
-                int quay = neediest(firstQuay, firstQuay + QUAYS_OF_BASIN);
-                int helper = quay == NOT_FOUND ? NOT_FOUND : helperFor(quay, true);
+                int quay = neediest(first, end);
+                int helper = quay == NOT_FOUND ? NOT_FOUND : helperFor(quay, why == LENT_IN_BASIN);
                 if (helper == NOT_FOUND) {
                     return;
                 }
-                depart(helper, quay, LENT_IN_BASIN);
+                depart(helper, quay, why);
             }
-        }
-
-        private void lookOverPort() {
-            int before = log.total;
-            for (int i = 0; i < armCount; i++) {
-                int quay = neediest(0, QUAYS);
-                int helper = quay == NOT_FOUND ? NOT_FOUND : helperFor(quay, false);
-                if (helper == NOT_FOUND) {
-                    break;
-                }
-                depart(helper, quay, LENT_OVER_PORT);
-            }
-            planNextLook(OVER_PORT, log.total > before);
         }
 
         private void planNextLook(int level, boolean found) {

@@ -8,7 +8,8 @@ final class LanguageTest {
     private static final String[] FORBIDDEN = {
         "\\bthrow\\b", "\\btry\\b", "\\bcatch\\b", "\\bsynchronized\\b", "\\bassert\\b", "\\bimport\\b", "\\bpackage\\b",
         "->", "::", "\\bequals\\b", "\\bhashCode\\b", "\\btoString\\b", "\\bprotected\\b", "\\bstatic \\{",
-        "\\bSystem\\.(?!arraycopy\\b)", "\\bMath\\.(?!min\\b|max\\b)", "\\bRandom\\b", "\\bThread\\b"};
+        "\\bSystem\\.(?!arraycopy\\b)", "\\bMath\\.(?!min\\b|max\\b)",
+        "\\bInteger\\b", "\\bLong\\b", "\\bString\\b", "\\bRandom\\b", "\\bThread\\b"};
 
     static void test(Check check, String file) throws Exception {
         check.about("language");
