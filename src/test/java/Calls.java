@@ -28,7 +28,7 @@ final class Calls {
         }
     }
 
-    /** Everything that can be told, but the trials. */
+    /** Everything that can be told; of the trials, one of each. */
     static int[] told(LentArms x) {
         int[] told = new int[2000];
         int at = 0;
@@ -57,6 +57,11 @@ final class Calls {
                 told[at++] = x.way(back, what);
             }
         }
+        // what is held but not told shows in what comes of it
+        for (int what = 0; what < 4; what++) {
+            told[at++] = x.ifRun(40, what);
+        }
+        told[at++] = x.bestHome(20);
         return java.util.Arrays.copyOf(told, at);
     }
 
