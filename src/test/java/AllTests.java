@@ -11,6 +11,7 @@ public final class AllTests {
         TellTest.test(check);
         TrialTest.test(check);
         EdgesTest.test(check, "src/test/edges.txt", "../shared/DOC.md");
+        EdgesTest.readme(check, "README.md");
         TwinTest.test(check);
         LanguageTest.test(check, arguments.length > 0 ? arguments[0] : "src/main/java/LentArms.java");
         check.tell();

@@ -19,6 +19,8 @@ final class EdgesTest {
             + "|.*(Ahead of the calls|the interface says|In parentheses|first value|see below|Errors are reported"
             + "|The constants|In a tick these happen).*");
 
+    private static final Pattern EXAMPLE = Pattern.compile("port\\.(\\w+)\\((.*)\\); +// (-?\\d+)");
+
     private final Check check;
     private final String document;
     private final List<int[]> quoted = new ArrayList<>();
@@ -31,6 +33,21 @@ final class EdgesTest {
         }
         check.about("cases for the document");
         edges.everySentence();
+    }
+
+    /** What README.md tells of its example must be so. */
+    static void readme(Check check, String readme) throws Exception {
+        check.about("the example of " + readme);
+        Play play = new Play(check);
+        int calls = 0;
+        for (String line : Files.readAllLines(Path.of(readme))) {
+            Matcher example = EXAMPLE.matcher(line);
+            if (example.lookingAt()) {
+                play.step(example.group(1), example.group(2), example.group(3));
+                calls++;
+            }
+        }
+        check.holds("has calls", calls > 0);
     }
 
     private EdgesTest(Check check, String document) {
